@@ -503,7 +503,7 @@ public final class RangeCoders {
         }
     }
 
-    /** What the five forms have in common. A next item that is BAD is NONE, and leaves CODE, RANGE, X and asked alone. */
+    /** What the five forms have in common. A next item that is BAD is NONE, and changes nothing of the reading. */
     private abstract static class Coder {
         private static final int WIDEST = 12;
 

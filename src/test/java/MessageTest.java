@@ -110,7 +110,7 @@ public final class MessageTest {
         }
     }
 
-    /** Form 4: X is 512, F 256, so a 0 is WRITTEN, and X - F is 0: the least PLACE of sign 1, which is 1 (323 * 411). */
+    /** Form 4: X is 512, F 256: a 0 is WRITTEN, X - F is 0; sign 1's least PLACE is 1, which is given as number 363. */
     private static void oneSign() {
         int[][] due = {{0x7F, 0xFF, 0xFF, 0xFF}, {0x7F, 0xFF, 0xFF, 0xFF}, {0x7F, 0xFF, 0xFC, 0}, {1, 0, 8, 0},
             {0, 0x80}};
