@@ -12,7 +12,9 @@ public final class BitsTest {
         lowOf2To32();
         lowOfFFFFFFFF();
         lowOfFF000000();
+        lowBelowFF000000();
         pendingWithoutCache();
+        pendingOfNoMessage();
         surestBits();
         bitOfSign();
         bitOfValue();
@@ -196,6 +198,25 @@ public final class BitsTest {
         Check.message("PENDING without a CACHE", x, 0x7FFC0000L, 0x8003FF00L);
         x.end();
         Check.bytes("PENDING without a CACHE", x, 0xFF, 0x7F, 0xFC, 0, 0);
+    }
+
+    private static void lowBelowFF000000() {
+        RangeCoders x = coders(4);
+        x.bits(255, 8);
+        Check.message("LOW was FEFFFFF8h: CACHE is FEh", x, 0xFFFFF800L, 0xFFFFFF00L);
+        x.bits(1, 1);
+        Check.message("LOW was FEFFFFF8h: then a carry", x, 0x17FFFF780L, 0x7FFFFF80L);
+        x.end();
+        Check.bytes("CACHE has it", x, 0xFF, 0x7F, 0xFF, 0xF7, 0x80);
+    }
+
+    private static void pendingOfNoMessage() {
+        RangeCoders x = withPending();
+        x.begin();
+        Check.message("begun anew", x, 0, FULL);
+        x.bits(0, 8);
+        x.end();
+        Check.bytes("nothing PENDING is left", x, 0, 0, 0, 0, 0);
     }
 
     /** p is 2047, then 1: a bit that was not looked for makes RANGE 2048 times less, at least. */

@@ -17,6 +17,7 @@ public final class LimitsTest {
             octetsInReading(form);
             spoiltInReading(form);
             messageAndReadingApart(form);
+            readAgain(form);
             badTillReadOrTake(form);
             numbersWithoutSign(form);
         }
@@ -241,6 +242,25 @@ public final class LimitsTest {
         for (int what = 0; what <= 1; what++) Check.due(in + "state(" + what + ")", both.state(what), alone.state(what));
         Check.due(in + "end()", both.end(), alone.end());
         for (int i = 0; i < alone.told(2); i++) Check.due(in + "out(" + i + ")", both.out(i), alone.out(i));
+    }
+
+    /** "A reading of IN begins": also where one goes on, which is over then. */
+    private static void readAgain(int form) {
+        String in = "form " + form + ", read() again: ";
+        RangeCoders x = new RangeCoders(form, 1);
+        x.model(3);
+        for (int i = 0; i < 20; i++) x.put(0, i % 4 == 3 ? 1 : 2);
+        x.end();
+        x.take(1);
+        x.read();
+        long[] first = {x.state(2), x.state(3), x.state(4), x.state(5), x.told(5)};
+        for (int i = 0; i < 20; i++) Check.due(in + "sign " + i, x.get(0), i % 4 == 3 ? 1 : 2);
+        Check.due(in + "items read", x.told(4), 20);
+        Check.due(in + "bytes of IN", x.read(), x.told(3));
+        Check.due(in + "no items read", x.told(4), 0);
+        for (int what = 2; what <= 5; what++) Check.due(in + "state(" + what + ")", x.state(what), first[what - 2]);
+        Check.due(in + "bytes asked for", x.told(5), first[4]);
+        for (int i = 0; i < 20; i++) Check.due(in + "sign " + i + " again", x.get(0), i % 4 == 3 ? 1 : 2);
     }
 
     // ---- "BAD: the reading is BAD from then on"

@@ -8,10 +8,8 @@ public final class ModelsTest {
         }
         nearestForm();
         nearestShift();
-        halvedChances();
         learntChances();
         chancesOfNodes();
-        scaledChances();
         chancesBehindEnded();
         modelsMadeLate();
         Check.finish("ModelsTest");
@@ -107,33 +105,6 @@ public final class ModelsTest {
         Check.due(in + "no items again", x.count(0, 2, 11), 10);
     }
 
-    private static void halvedChances() {
-        for (int form = 0; form <= 1; form++) {
-            RangeCoders x = new RangeCoders(form, 4);
-            x.model(4);
-            x.count(0, 0, 4095);
-            x.count(0, 1, 4095);
-            x.count(0, 2, 2);
-            x.count(0, 3, 0);
-            Check.due("a sum of 8192 stays", x.chance(0, 0), 4095);
-            x.count(0, 3, 1);
-            Check.due("a sum of 8193 is halved", x.chance(0, 0), 2048);
-            Check.due("halved 2", x.chance(0, 2), 1);
-            Check.due("halved 1", x.chance(0, 3), 1);
-            x.count(0, 2, 0);
-            x.count(0, 3, 4095);
-            Check.due("halved 0", x.chance(0, 2), 0);
-            Check.due("chance(0, 4)", x.chance(0, 4), -1);
-            Check.due("chance(0, -1)", x.chance(0, -1), -1);
-            Check.due("chance(1, 0)", x.chance(1, 0), -1);
-            Check.due("chance(-1, 0)", x.chance(-1, 0), -1);
-        }
-        RangeCoders many = new RangeCoders(0, 4);
-        many.model(64);
-        for (int i = 0; i < 64; i++) many.count(0, i, 4095);
-        Check.due("262080 is halved five times, up to 8192", many.chance(0, 63), 128);
-    }
-
     private static void learntChances() {
         for (int form = 0; form <= 1; form++) {
             RangeCoders x = new RangeCoders(form, 4);
@@ -175,50 +146,6 @@ public final class ModelsTest {
         Check.due("NODE 1 behind ENDED", x.chance(0, 1), 1056);
         x.begin();
         Check.due("NODE 1 of a new message", x.chance(0, 1), 1024);
-    }
-
-    private static void scaledChances() {
-        RangeCoders x = new RangeCoders(3, 4);
-        x.model(3);
-        chances("form 3, what lacks comes to the first", x, 1366, 1365, 1365);
-        x.count(0, 1, 2);
-        chances("form 3, the greatest is not the first", x, 1024, 2048, 1024);
-        x.count(0, 0, 0);
-        chances("form 3, a COUNT of 0", x, 0, 2731, 1365);
-        x.count(0, 1, 4095);
-        x.count(0, 0, 1);
-        chances("form 3, 1 at least", x, 1, 4094, 1);
-        x.count(0, 0, 0);
-        x.count(0, 1, 0);
-        chances("form 3, all to one", x, 0, 0, 4096);
-        x.count(0, 2, 0);
-        chances("form 3, no signs", x, 0, 0, 0);
-        RangeCoders y = new RangeCoders(4, 4);
-        y.model(3);
-        chances("form 4, what lacks comes to the first", y, 172, 170, 170);
-        y.count(0, 1, 4095);
-        y.count(0, 2, 4095);
-        chances("form 4, what lacks comes to the first of two", y, 1, 256, 255);
-        RangeCoders w = new RangeCoders(4, 4);
-        w.model(5);
-        w.count(0, 1, 4095);
-        w.count(0, 3, 4095);
-        Check.due("form 4, the first of two greatest loses 1", w.chance(0, 1), 254);
-        Check.due("form 4, the second does not", w.chance(0, 3), 255);
-        Check.due("form 4, nor does a lesser one", w.chance(0, 0), 1);
-        RangeCoders z = new RangeCoders(4, 4);
-        z.model(64);
-        z.count(0, 63, 4095);
-        Check.due("form 4, many of 1", z.chance(0, 0), 1);
-        Check.due("form 4, the rest", z.chance(0, 63), 449);
-    }
-
-    private static void chances(String what, RangeCoders x, int a, int b, int c) {
-        Check.due(what + ": 0", x.chance(0, 0), a);
-        Check.due(what + ": 1", x.chance(0, 1), b);
-        Check.due(what + ": 2", x.chance(0, 2), c);
-        Check.due(what + ": 3", x.chance(0, 3), -1);
-        Check.due(what + ": -1", x.chance(0, -1), -1);
     }
 
     private static void chancesBehindEnded() {

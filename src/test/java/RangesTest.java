@@ -1,3 +1,5 @@
+import java.util.Arrays;
+
 /**
  * Forms 0 and 1 (and what form 2 has of 0 in BitsTest) at their bounds: F and its sums, RANGE and LOW where bytes
  * come, v where a reading is BAD. Each test names the words of the document that it holds.
@@ -25,6 +27,7 @@ public final class RangesTest {
         lowOf2To32();
         lowBelowFF000000();
         pendingWithoutCache();
+        pendingOfNoMessage();
         rangeOf2To16();
         rangeBelow2To16();
         wrappedSum();
@@ -44,6 +47,9 @@ public final class RangesTest {
         Check.chances(in + "12285 once", Given.counts(form, 4095, 4095, 4095), 2048, 2048, 2048);
         Check.chances(in + "16380 once: 8192", Given.counts(form, 4095, 4095, 4095, 4095), 2048, 2048, 2048, 2048);
         Check.chances(in + "16381 twice", Given.counts(form, 4095, 4095, 4095, 4095, 1), 1024, 1024, 1024, 1024, 1);
+        int[] most = new int[64];
+        Arrays.fill(most, 4095);
+        Check.due(in + "262080 five times: 8192", Given.counts(form, most).chance(0, 63), 128);
         even.put(0, 0);
         even.begin();
         Check.chances(in + "8192 again as the next one begins", even, 4095, 4095, 2);
@@ -300,13 +306,21 @@ public final class RangesTest {
         Check.due(in + "sign 2", x.get(0), 2);
     }
 
+    /** LOW is FDFFFF81h, r 1FFFFFFh BY 7035 = 4769, c 3518. */
     private static void lowBelowFF000000() {
-        RangeCoders x = new RangeCoders(0, 4);
-        x.bits(255, 8);
-        Check.message("LOW is FEFFFF01h: CACHE is FEh", x, 0xFFFF0100L, 0xFFFFFF00L);
+        String in = "LOW is FEFFFFFFh: ";
+        RangeCoders x = Given.counts(0, 3518, 3517);
+        x.bits(127, 7);
+        x.put(0, 1);
+        Check.message(in + "CACHE is FEh", x, 0xFFFFFF00L, 0xFFEDDD00L);
         x.bits(1, 1);
+        Check.message(in + "then a carry", x, 0x17FF6ED80L, 0x7FF6EE80L);
         x.end();
-        Check.bytes("FEh and a carry", x, 0xFF, 0x7F, 0xFF, 0, 0x80);
+        Check.bytes(in + "CACHE has it", x, 0xFF, 0x7F, 0xF6, 0xED, 0x80);
+        Given.readingOfOut(x);
+        Check.due(in + "127 of 7", x.getBits(7), 127);
+        Check.due(in + "sign 1", x.get(0), 1);
+        Check.due(in + "1 of 1", x.getBits(1), 1);
     }
 
     /** "CACHE (if there is one)": the first byte is PENDING, and no CACHE stands ahead of it. */
@@ -318,6 +332,25 @@ public final class RangesTest {
         Check.bytes("PENDING without a CACHE", x, 0xFF, 0xEF, 0xF0, 0x01, 0);
         Given.readingOfOut(x);
         Check.due("PENDING without a CACHE: read", x.getBits(12), 4095);
+    }
+
+    /** "no CACHE, nothing PENDING": also where the message before was not ENDED. */
+    private static void pendingOfNoMessage() {
+        RangeCoders x = withPending(1, 1);
+        x.begin();
+        Check.message("begun anew", x, 0, FULL);
+        x.bits(0, 8);
+        x.end();
+        Check.bytes("nothing PENDING is left", x, 0, 0, 0, 0, 0);
+        x.begin();
+        x.bits(4095, 12);
+        x.end();
+        Check.bytes("no CACHE is left", x, 0xFF, 0xEF, 0xF0, 0x01, 0);
+        RangeCoders y = withPending(1, 1);
+        y.begin();
+        y.bits(4095, 12);
+        y.end();
+        Check.bytes("neither is left", y, 0xFF, 0xEF, 0xF0, 0x01, 0);
     }
 
     // ---- form 1: "or else RANGE is below 2^16 (then it becomes the lowest 16 bits of 0 - LOW first)"

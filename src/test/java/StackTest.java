@@ -1,3 +1,5 @@
+import java.util.Arrays;
+
 /** Form 3 at its bounds: F SCALED to 4096, X where bytes are WRITTEN and where they come, and where X is BAD. */
 public final class StackTest {
     private static final long LEAST = 1 << 23;
@@ -47,7 +49,7 @@ public final class StackTest {
     /** "as long as their sum is above M, the greatest F (of several the first) loses 1": 4126 and 4125. */
     private static void sumAbove4096() {
         int[] even = new int[64];
-        java.util.Arrays.fill(even, 1);
+        Arrays.fill(even, 1);
         even[5] = 4095;
         even[60] = 4095;
         RangeCoders x = counts(even);
