@@ -179,6 +179,9 @@ public final class BitsTest {
         Check.message("then a carry", x, 0x17FFFFE80L, 0x7FFFFF80L);
         x.end();
         Check.bytes("all PENDING have it", x, 0x80, 0, 0, 0, 0x7F, 0xFF, 0xFE, 0x80);
+        Check.message("behind ENDED as they are then", x, 0, 0x7FFFFF80L);
+        x.begin();
+        Check.message("begun again", x, 0, FULL);
     }
 
     private static void lowOfFF000000() {

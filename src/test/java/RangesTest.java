@@ -9,6 +9,7 @@ public final class RangesTest {
 
     public static void main(String[] args) {
         for (int form = 0; form <= 1; form++) {
+            countsAheadOfFirstItem(form);
             sumAbove8192AsMessageBegins(form);
             sumAbove8192AsReadingBegins(form);
             growsBy32InMessage(form);
@@ -33,6 +34,28 @@ public final class RangesTest {
         wrappedSum();
         codeBelowLow();
         Check.finish("RangesTest");
+    }
+
+    /** "(a COUNT that is changed ahead of its first item counts, too)" */
+    private static void countsAheadOfFirstItem(int form) {
+        String in = "form " + form + ": a COUNT ";
+        RangeCoders x = Given.counts(form, 1, 1);
+        x.begin();
+        x.count(0, 0, 3);
+        Check.chances(in + "ahead of the first item", x, 3, 1);
+        x.put(0, 0);
+        Check.message(in + "ahead of the first item", x, 0, FULL / 4 * 3);
+        Check.due(in + "behind it", x.count(0, 0, 1), -3);
+        x.end();
+        Check.due(in + "behind ENDED", x.count(0, 0, 1), 3);
+        Check.chances(in + "behind ENDED: as it ended", x, 35, 1);
+        x.begin();
+        Check.chances(in + "behind ENDED: as the next one begins", x, 1, 1);
+        x.put(0, 0);
+        Check.message(in + "behind ENDED: as the next one begins", x, 0, FULL / 2);
+        Given.reading(x, 0);
+        x.get(0);
+        Check.reading(in + "as a reading begins", x, 0, FULL / 2, 4);
     }
 
     // ---- "as long as their sum is above 8192, each F becomes (F + 1) BY 2"

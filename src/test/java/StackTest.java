@@ -1,20 +1,11 @@
-import java.util.Arrays;
-
-/** Form 3 at its bounds: F SCALED to 4096, X where bytes are WRITTEN and where they come, and where X is BAD. */
+/** Form 3 at its bounds: X where bytes are WRITTEN and where they come, and where X is BAD. */
 public final class StackTest {
     private static final long LEAST = 1 << 23;
 
     public static void main(String[] args) {
-        zeroCounts();
-        oneAtLeast();
-        sumAbove4096();
-        whatLacks();
-        noSigns();
-        countsAheadOfFirstItem();
         xNotBelow();
         xNotBelowTwice();
         sureSign();
-        lastItemFirst();
         firstFourBytes();
         xBelow2To23Behind();
         shareOfTheSign();
@@ -25,86 +16,6 @@ public final class StackTest {
 
     private static RangeCoders counts(int... counts) {
         return Given.counts(3, counts);
-    }
-
-    // ---- SCALED: "a COUNT of 0 is 0, others COUNT M BY the sum, 1 at least"
-
-    private static void zeroCounts() {
-        RangeCoders x = counts(0, 1, 0, 1);
-        Check.chances("COUNTS of 0", x, 0, 2048, 0, 2048);
-        Check.due("an F of 0", x.put(0, 0), -3);
-        Check.due("an F above 0", x.put(0, 3), 1);
-        Check.chances("one COUNT above 0", counts(0, 0, 4095), 0, 0, 4096);
-        Check.chances("one COUNT of 1", counts(1, 0), 4096, 0);
-    }
-
-    /** 4096 BY 4096 is 1, 4096 BY 4097 is 0. */
-    private static void oneAtLeast() {
-        Check.chances("1 of 4096", counts(1, 4095), 1, 4095);
-        Check.chances("1 of 4097", counts(1, 4095, 1), 1, 4094, 1);
-        Check.chances("1 of 8192", counts(1, 4095, 4095, 1), 1, 2047, 2047, 1);
-        Check.chances("2 of 8192", counts(2, 4095, 4095), 1, 2048, 2047);
-    }
-
-    /** "as long as their sum is above M, the greatest F (of several the first) loses 1": 4126 and 4125. */
-    private static void sumAbove4096() {
-        int[] even = new int[64];
-        Arrays.fill(even, 1);
-        even[5] = 4095;
-        even[60] = 4095;
-        RangeCoders x = counts(even);
-        Check.due("30 too many: the first", x.chance(0, 5), 2017);
-        Check.due("30 too many: the second", x.chance(0, 60), 2017);
-        Check.due("30 too many: one of 1", x.chance(0, 0), 1);
-        even[0] = 0;
-        RangeCoders y = counts(even);
-        Check.due("29 too many: the first loses one more", y.chance(0, 5), 2017);
-        Check.due("29 too many: the second", y.chance(0, 60), 2018);
-        Check.due("29 too many: a COUNT of 0", y.chance(0, 0), 0);
-        Check.chances("as many as 4096", counts(1, 1, 2), 1024, 1024, 2048);
-    }
-
-    /** "what lacks to M comes to the greatest (the first)" */
-    private static void whatLacks() {
-        Check.chances("1 to the first of three", counts(1, 1, 1), 1366, 1365, 1365);
-        Check.chances("1 to the first of the two greatest", counts(0, 1, 1, 1), 0, 1366, 1365, 1365);
-        Check.chances("2 to the greatest", counts(1, 2, 3, 1), 585, 1170, 1756, 585);
-        Check.chances("3 to the first of seven", counts(1, 1, 1, 1, 1, 1, 1), 586, 585, 585, 585, 585, 585, 585);
-    }
-
-    private static void noSigns() {
-        RangeCoders x = counts(0, 0);
-        Check.chances("all COUNTS 0", x, 0, 0);
-        Check.due("no sign to put", x.put(0, 1), -3);
-        x.bits(1, 1);
-        x.end();
-        Given.readingOfOut(x);
-        long before = x.state(5);
-        Check.due("no sign to get", x.get(0), -5);
-        Check.due("X stays", x.state(5), before);
-        Check.due("asked for", x.told(5), 4);
-        Check.due("items read", x.told(4), 0);
-        Check.due("BAD", x.told(6), 1);
-        Check.due("BAD from then on", x.getBits(1), -5);
-        x.take(1);
-        x.count(0, 1, 1);
-        x.read();
-        Check.due("with a sign", x.get(0), 1);
-    }
-
-    private static void countsAheadOfFirstItem() {
-        RangeCoders x = counts(1, 1);
-        x.begin();
-        x.count(0, 0, 3);
-        Check.chances("ahead of the first item", x, 3072, 1024);
-        x.put(0, 0);
-        Check.due("behind it", x.count(0, 0, 1), -3);
-        Check.chances("a message teaches nothing", x, 3072, 1024);
-        x.end();
-        x.count(0, 0, 1);
-        Check.chances("as it ended", x, 3072, 1024);
-        x.begin();
-        Check.chances("as the next one begins", x, 2048, 2048);
     }
 
     // ---- "as long as X is not below 2^19 f: its lowest byte is WRITTEN"
@@ -148,19 +59,6 @@ public final class StackTest {
         Given.readingOfOut(x);
         for (int i = 0; i < 60; i++) Check.due("it is read for ever", x.get(0), 1);
         Check.due("nothing more is asked for", x.told(5), 4);
-    }
-
-    private static void lastItemFirst() {
-        RangeCoders x = counts(1, 3);
-        x.put(0, 1);
-        x.bits(6, 3);
-        x.put(0, 0);
-        x.end();
-        Given.readingOfOut(x);
-        Check.due("the first item", x.get(0), 1);
-        Check.due("the second", x.getBits(3), 6);
-        Check.due("the third", x.get(0), 0);
-        Check.due("X is as it was", x.state(5), LEAST);
     }
 
     // ---- "READ: X is the first four bytes, the highest first (below 2^23: BAD)"

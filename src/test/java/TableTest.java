@@ -1,20 +1,13 @@
 import java.util.Arrays;
 
-/** Form 4 at its bounds: F SCALED to 512, the PLACES, X where bits are WRITTEN and where they come, bytes filled up. */
+/** Form 4 at its bounds: the PLACES, X where bits are WRITTEN and where they come, bytes filled up. */
 public final class TableTest {
     public static void main(String[] args) {
-        zeroCounts();
-        oneAtLeast();
-        sumAbove512();
-        whatLacks();
-        noSigns();
-        countsAheadOfFirstItem();
         xOfTwoF();
         rarestSign();
         sureSign();
         nineBitsAtMost();
         filledWithZeros();
-        lastItemFirst();
         allPlaces();
         allPlacesOfTwo();
         xBelow512();
@@ -25,88 +18,6 @@ public final class TableTest {
 
     private static RangeCoders counts(int... counts) {
         return Given.counts(4, counts);
-    }
-
-    // ---- SCALED
-
-    private static void zeroCounts() {
-        RangeCoders x = counts(0, 1, 0, 1);
-        Check.chances("COUNTS of 0", x, 0, 256, 0, 256);
-        Check.due("an F of 0", x.put(0, 0), -3);
-        Check.due("an F above 0", x.put(0, 3), 1);
-        Check.chances("one COUNT above 0", counts(0, 0, 4095), 0, 0, 512);
-        Check.chances("one COUNT of 1", counts(1, 0), 512, 0);
-    }
-
-    /** 512 BY 512 is 1, 512 BY 513 is 0, 8 times 512 BY 4096 is 1. */
-    private static void oneAtLeast() {
-        Check.chances("1 of 512", counts(1, 511), 1, 511);
-        Check.chances("1 of 513", counts(1, 511, 1), 1, 510, 1);
-        Check.chances("8 of 4096", counts(8, 4088), 1, 511);
-        Check.chances("7 of 4096", counts(7, 4089), 1, 511);
-        Check.chances("16 of 4096", counts(16, 4080), 2, 510);
-        Check.chances("15 of 4096", counts(15, 4081), 1, 511);
-    }
-
-    /** 254 twice and 62 of 1 are 570, with one less 569. */
-    private static void sumAbove512() {
-        int[] many = new int[64];
-        Arrays.fill(many, 1);
-        many[5] = 4095;
-        many[60] = 4095;
-        RangeCoders x = counts(many);
-        Check.due("58 too many: the first", x.chance(0, 5), 225);
-        Check.due("58 too many: the second", x.chance(0, 60), 225);
-        Check.due("58 too many: one of 1", x.chance(0, 63), 1);
-        many[63] = 0;
-        RangeCoders y = counts(many);
-        Check.due("57 too many: the first loses one more", y.chance(0, 5), 225);
-        Check.due("57 too many: the second", y.chance(0, 60), 226);
-        Check.due("57 too many: a COUNT of 0", y.chance(0, 63), 0);
-    }
-
-    private static void whatLacks() {
-        Check.chances("2 to the first of three", counts(1, 1, 1), 172, 170, 170);
-        Check.chances("2 to the first of the greatest", counts(0, 1, 1, 1), 0, 172, 170, 170);
-        Check.chances("1 to the greatest", counts(1, 2, 3, 1), 73, 146, 220, 73);
-        Check.chances("nothing lacks", counts(1, 1, 2), 128, 128, 256);
-    }
-
-    private static void noSigns() {
-        RangeCoders x = counts(0, 0);
-        Check.chances("all COUNTS 0", x, 0, 0);
-        Check.due("no sign to put", x.put(0, 1), -3);
-        x.bits(1, 1);
-        x.end();
-        Given.readingOfOut(x);
-        Check.due("no sign to get", x.get(0), -5);
-        Check.due("X stays", x.state(5), 512);
-        Check.due("asked for", x.told(5), 2);
-        Check.due("items read", x.told(4), 0);
-        Check.due("BAD", x.told(6), 1);
-        Check.due("BAD from then on", x.getBits(1), -5);
-        x.take(1);
-        x.count(0, 1, 1);
-        x.read();
-        Check.due("with a sign", x.get(0), 1);
-        Check.due("and the VALUE", x.getBits(1), 1);
-    }
-
-    private static void countsAheadOfFirstItem() {
-        RangeCoders x = counts(1, 1);
-        x.begin();
-        x.count(0, 0, 3);
-        Check.chances("ahead of the first item", x, 384, 128);
-        x.put(0, 1);
-        Check.due("behind it", x.count(0, 0, 1), -3);
-        x.end();
-        x.count(0, 0, 1);
-        Check.chances("as it ended", x, 384, 128);
-        x.begin();
-        Check.chances("as the next one begins", x, 256, 256);
-        x.put(0, 1);
-        x.end();
-        Check.bytes("PLACES as the next one begins", x, 0, 0x80);
     }
 
     // ---- "as long as X is 2 F at least, its lowest bit is WRITTEN"
@@ -201,19 +112,6 @@ public final class TableTest {
             Check.due((9 + ones) + " bits", x.end(), ones < 8 ? 2 : 3);
             Check.due((9 + ones) + " bits: the last byte", x.out(ones < 8 ? 1 : 2), lastByte[ones]);
         }
-    }
-
-    private static void lastItemFirst() {
-        RangeCoders x = counts(1, 3);
-        x.put(0, 1);
-        x.bits(6, 3);
-        x.put(0, 0);
-        x.end();
-        Given.readingOfOut(x);
-        Check.due("the first item", x.get(0), 1);
-        Check.due("the second", x.getBits(3), 6);
-        Check.due("the third", x.get(0), 0);
-        Check.due("X is as it was", x.state(5), 512);
     }
 
     // ---- "PLACES .. from 0 on, 323 more each time, modulo 512": PLACE p is given as number 363 p
